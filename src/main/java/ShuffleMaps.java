@@ -630,7 +630,7 @@ public final class ShuffleMaps {
         private int repeated(int a, int n) {
             int all = 0;
             for (int i = 0; i < n; i++) {
-                all = sum(all, a);
+                all = sums[all * q + a];
             }
             return all;
         }
