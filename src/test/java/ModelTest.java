@@ -1,5 +1,14 @@
-/** Long runs of mixed calls on the class and on the slow model, each answer held against the other. */
+/**
+ * Runs of mixed calls on the class and on the slow model, each answer held against the other. No object is asked more
+ * often than the document says: what it answers later is free.
+ */
 final class ModelTest {
+    private static final int MOST_CALLS = 512;
+    private static final int LONG_RUNS = 14, CLOSE_RUNS = 80;
+    /** All rows and the trace of 16 numbers. */
+    private static final int MOST_ROWS = 4 * 16 + 1;
+    /** A field and the sets behind it, then the rows, and those at the end. */
+    private static final int DEAREST = 1 + 4 * 16 + 2 * MOST_ROWS;
     private static final String[] CALLS = {
         "field", "plus", "times", "over", "set", "at", "coefficient", "change", "degree", "make", "taste", "chain",
         "shuffles", "fails", "image", "turn", "order", "fixed", "difference", "spread", "planar", "walk", "linear",
@@ -9,6 +18,7 @@ final class ModelTest {
     private final Model model = new Model();
     private final StringBuilder done = new StringBuilder();
     private long seed;
+    private int asked;
 
     private ModelTest(long seed) {
         this.seed = seed;
@@ -18,19 +28,21 @@ final class ModelTest {
         for (int q : Model.SIZES) {
             tables(q);
             degrees(q);
-            for (int run = 0; run < 12; run++) {
-                new ModelTest(run * 100L + q).run(q, 300);
+            for (int run = 0; run < LONG_RUNS; run++) {
+                new ModelTest(run * 100L + q).run(q, false);
+            }
+            for (int run = 0; run < CLOSE_RUNS; run++) {
+                new ModelTest(run * 100L + q + 50).run(q, true);
             }
         }
         Due.end();
     }
 
     private static void tables(int q) {
-        ShuffleMaps x = new ShuffleMaps();
         Model m = new Model();
-        x.field(q);
         m.field(q);
         for (int a = -1; a <= q; a++) {
+            ShuffleMaps x = Shelves.of(q);
             Due.is("q " + q + " over " + a, x.over(a), m.over(a));
             for (int b = -1; b <= q; b++) {
                 Due.is("q " + q + " plus " + a + " " + b, x.plus(a, b), m.plus(a, b));
@@ -41,11 +53,10 @@ final class ModelTest {
 
     /** All degrees, each picked polynomial and its row. */
     private static void degrees(int q) {
-        ShuffleMaps x = new ShuffleMaps();
-        Model m = new Model();
-        x.field(q);
-        m.field(q);
         for (int degree = -1; degree <= 7; degree++) {
+            ShuffleMaps x = Shelves.of(q);
+            Model m = new Model();
+            m.field(q);
             int many = m.many(degree);
             Due.is("q " + q + " many " + degree, x.many(degree), many);
             // The model searches from the start for each, so the later ones are tried with gaps.
@@ -74,19 +85,23 @@ final class ModelTest {
         return any(10) == 0 ? edges[any(edges.length)] : 1 + any(20);
     }
 
-    private void run(int q, int calls) {
-        real.field(q);
-        model.field(q);
+    /** Looks at all rows at the end, or, in a close run, behind each call. */
+    private void run(int q, boolean close) {
+        both("field", real.field(q), model.field(q), q);
         shake();
-        for (int i = 0; i < calls; i++) {
+        while (asked + DEAREST <= MOST_CALLS) {
             String call = CALLS[any(CALLS.length)];
             // The slow ones and those that lose all maps come seldom.
             boolean seldom = "many pick like least field".contains(call) && any(model.q > 8 ? 20 : 4) != 0;
             if (!seldom) {
                 one(call);
-                rows();
+                if (close) {
+                    rows();
+                }
             }
         }
+        rows();
+        Due.isTrue("calls " + asked, asked <= MOST_CALLS);
     }
 
     /** Rows that shuffle by chance are rare: some are shuffled on purpose. */
@@ -108,9 +123,11 @@ final class ModelTest {
             }
         }
         Due.is(done + " trace", real.trace(), model.trace);
+        asked += 4 * model.q + 1;
     }
 
     private void both(String call, long got, long want, int... with) {
+        asked++;
         done.setLength(0);
         done.append("q ").append(model.q).append(' ').append(call).append(java.util.Arrays.toString(with));
         Due.is(done.toString(), got, want);
